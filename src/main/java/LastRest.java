@@ -13,7 +13,7 @@ public final class LastRest {
 
     private static final int MOST_ROWS = 8, MOST_ITEMS = 40, LANES = 3;
     private static final int MOST_LEGS = 8, MOST_WALKERS = 6, EVERYBODY = 63;
-    private static final int RULES = 4, MINUTES = 31, MOST_SACK = 20;
+    private static final int RULES = 4, AT_ONCE = 3, MINUTES = 31, MOST_SACK = 20;
     private static final int STEADY = 1, QUICK = 2, PROUD = 3, OLD = 4, LAME = 5, KINDS = 6;
     private static final int SIZE_ASK = 0, ASKS = 2;
 
@@ -234,7 +234,7 @@ public final class LastRest {
         Walker one = foretold.party.walkers[walker];
         foretold.walkToHut(now, now.rule, now.m);
         int byRule = one.minute;
-        foretold.walkToHut(now, 3, 0);
+        foretold.walkToHut(now, AT_ONCE, 0);
         return byRule - one.minute;
     }
 
@@ -490,12 +490,6 @@ public final class LastRest {
             return kind == LAME ? steady + miles : steady;
         }
 
-        /** The minutes come first: they are told by how tired one is as it leaves. */
-        private void walk(int miles, boolean ahead) {
-            came = minute + minutesFor(miles);
-            tired += tiresBy(miles, ahead);
-        }
-
         private void leaveAt(int leaves) {
             int rest = leaves - came;
             rested += rest;
@@ -542,7 +536,10 @@ public final class LastRest {
             int first = firstToLeave();
             for (int i = 0; i < size; i++) {
                 if (isIn(i)) {
-                    walkers[i].walk(miles, i == first);
+                    Walker one = walkers[i];
+                    // The minutes come first: they go by how tired one is as it leaves.
+                    one.came = one.minute + one.minutesFor(miles);
+                    one.tired += one.tiresBy(miles, i == first);
                 }
             }
         }
@@ -579,10 +576,6 @@ public final class LastRest {
                 default:
                     return came;
             }
-        }
-
-        private void leaveAtOnce() {
-            leaveGate(3, 0);
         }
 
         private int firstCame() {
@@ -650,12 +643,9 @@ public final class LastRest {
 
         /** Moves any party, so that what is foretold goes by the same law as what is done. */
         private void move(Party walking, int leg, int byRule, int byM) {
+            boolean toHut = leg + 1 >= legs;
             walking.walkLeg(miles[leg]);
-            if (leg + 1 < legs) {
-                walking.leaveGate(byRule, byM);
-            } else {
-                walking.leaveAtOnce();
-            }
+            walking.leaveGate(toHut ? AT_ONCE : byRule, byM);
         }
     }
 
@@ -901,8 +891,8 @@ public final class LastRest {
             bestNumber = 0;
         }
 
-        /** Of several the first stays. */
-        private boolean isBetter(int value, int itsNumber) {
+        /** Of several the first stays; true if this one is kept. */
+        private boolean keepIfLess(int value, int itsNumber) {
             if (value >= best) {
                 return false;
             }
@@ -922,13 +912,13 @@ public final class LastRest {
             startSearch();
             for (int code = 0; code < CODES; code++) {
                 if (isApart(code)) {
-                    isBetter(walkToHut(way, code / MINUTES, code % MINUTES), code);
+                    keepIfLess(walkToHut(way, code / MINUTES, code % MINUTES), code);
                 }
             }
         }
 
         private void findFair(Way way) {
-            walkToHut(way, 3, 0);
+            walkToHut(way, AT_ONCE, 0);
             for (int i = 0; i < party.size; i++) {
                 alone[i] = party.walkers[i].minute;
             }
@@ -936,7 +926,7 @@ public final class LastRest {
             for (int code = 0; code < CODES; code++) {
                 if (isApart(code)) {
                     walkToHut(way, code / MINUTES, code % MINUTES);
-                    isBetter(greatestLoss(), code);
+                    keepIfLess(greatestLoss(), code);
                 }
             }
         }
@@ -961,7 +951,7 @@ public final class LastRest {
                 for (int i = 0; i < n; i++) {
                     party.walkers[i].sack = way.party.walkers[whose[i]].sack;
                 }
-                if (isBetter(walkOn(way, way.rule, way.m), order)) {
+                if (keepIfLess(walkOn(way, way.rule, way.m), order)) {
                     System.arraycopy(whose, 0, bestWhose, 0, n);
                 }
                 more = nextOrder(n);
@@ -1000,7 +990,7 @@ public final class LastRest {
             for (int set = 0; set < sets; set += 2) {
                 int there = walkSet(way, set);
                 int othersThere = walkSet(way, EVERYBODY - set);
-                isBetter(Math.max(there, othersThere), set);
+                keepIfLess(Math.max(there, othersThere), set);
             }
         }
 
@@ -1028,7 +1018,7 @@ public final class LastRest {
             returning.become(party);
             for (int leg = gate - 1; leg >= 0; leg--) {
                 returning.walkLeg(way.miles[leg]);
-                returning.leaveAtOnce();
+                returning.leaveGate(AT_ONCE, 0);
             }
             return returning.lastMinute();
         }
