@@ -465,10 +465,6 @@ public final class LastRest {
             kind = newKind;
             pace = newPace;
             sack = newSack;
-            tired = 0;
-            minute = 0;
-            rested = 0;
-            came = 0;
         }
 
         private int minutesFor(int miles) {
@@ -631,16 +627,6 @@ public final class LastRest {
             party.become(other.party);
         }
 
-        private void clear() {
-            told = false;
-            legs = 0;
-            gate = 0;
-            rule = 0;
-            m = 0;
-            sun = 0;
-            party.size = 0;
-        }
-
         /** Moves any party, so that what is foretold goes by the same law as what is done. */
         private void move(Party walking, int leg, int byRule, int byM) {
             boolean toHut = leg + 1 >= legs;
@@ -649,7 +635,10 @@ public final class LastRest {
         }
     }
 
-    /** The tape and how it is read: token by token, up to the first that has a fault. */
+    /**
+     * The tape and how it is read: token by token, up to the first that has a fault. The way that it
+     * is read into is never walked, so that there nobody is tired and all are at gate 0.
+     */
     private static final class Reader {
         private static final int MOST_BYTES = 120, MOST_FIGURES = 3;
         private static final int END = -1, STRANGE = -2, NUMBER = -3;
@@ -674,7 +663,6 @@ public final class LastRest {
         private boolean readInto(Way way) {
             fault = 0;
             next = 0;
-            way.clear();
             advance();
             readLegs(way);
             readRule(way);
@@ -712,6 +700,7 @@ public final class LastRest {
         }
 
         private void readWalkers(Way way) {
+            way.party.size = 0;
             for (int i = 0; i <= MOST_WALKERS && fault == 0 && token != END; i++) {
                 int kind = expectSort(i < MOST_WALKERS);
                 int pace = expectNumber(1, 20, true);
@@ -769,7 +758,9 @@ public final class LastRest {
         }
 
         private void expect(int sign) {
-            if (!accept(sign)) {
+            if (token == sign) {
+                advance();
+            } else {
                 blame(MISPLACED);
             }
         }
@@ -790,6 +781,7 @@ public final class LastRest {
             }
         }
 
+        /** Behind a fault it stays where it is. */
         private void advance() {
             if (fault != 0) {
                 return;

@@ -39,6 +39,7 @@ public final class PromisesTest {
         promise19Loses();
         promise20Fair();
         promise21Sacks();
+        mostOfAll();
         promise22Parties();
         promise23Turn();
         promise24Fits();
@@ -618,6 +619,33 @@ public final class PromisesTest {
         return all;
     }
 
+    /** As many legs and walkers as there can be, all alike. */
+    private static void mostOfAll() {
+        told("w1,1,1,1,1,1,1,1;r0,0,80;o2,0;o2,0;o2,0;o2,0;o2,0;o2,0;");
+        due("16 most: there(5, 0)", x.there(5, 0), 40);
+        due("17 most: allThere()", x.allThere(), 40);
+        dueBest("18 most: soonest", soonest(), 0, 0, 40);
+        dueBest("20 most: fair", fair(), 0, 0, 0);
+        dueBest("21 most: sacks", sacks(6), 40, 0, 1, 2, 3, 4, 5);
+        due("22 most: parties(0)", x.parties(0), 0);
+        due("22 most: parties(1)", x.parties(1), 40);
+        due("23 most: turn()", x.turn(), 8);
+        x.row(4, 1, 8);
+        for (int i = 0; i < 8; i++) {
+            x.set(4, i, 5 * (i + 1));
+        }
+        due("24 most: fits", x.fits(5, 4, 0, 8, 0), 4);
+        due("24 most: the first", x.fits(5, 4, 0, 8, 1), 0);
+        x.set(4, 7, 41);
+        due("24 most: the last minute", x.fits(5, 4, 0, 8, 0), 0);
+        for (int i = 0; i < 8; i++) {
+            due("9 most: go()", x.go(), i + 1);
+        }
+        due("13 most: walker(5, 3)", x.walker(5, 3), 40);
+        due("7 nobody after many", read(NOBODY), 0);
+        due("17 nobody", x.allThere(), 0);
+    }
+
     private static void promise21Sacks() {
         fresh();
         due("21 no way, ahead of BAD", x.sacks(-2), STATE);
@@ -637,6 +665,10 @@ public final class PromisesTest {
         dueBest("21 of several the first", sacks(3), 40, 0, 2, 1);
         told("w2;r0,0,100;s5,0;s1,8;s20,8;");
         dueBest("21 of several the first", sacks(3), 40, 1, 2, 0);
+        told("w2;r0,0,100;o17,8;o16,4;o15,0;");
+        dueBest("21 the last order of all", sacks(3), 40, 2, 1, 0);
+        told("w2;r0,0,100;o17,8;o17,8;o16,4;o16,4;o15,0;o15,0;");
+        dueBest("21 the heaviest to the quickest", sacks(6), 40, 4, 5, 2, 3, 0, 1);
     }
 
     private static void promise22Parties() {
