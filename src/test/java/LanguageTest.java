@@ -120,7 +120,7 @@ public final class LanguageTest {
         LastRest x = new LastRest();
         dearCalls(x);
         long bytes = threads.getCurrentThreadAllocatedBytes() - before;
-        System.out.println("an object and its 512 dearest calls took " + bytes + " bytes");
+        System.out.println("an object and its dearest calls took " + bytes + " bytes");
         right("calls make little", bytes < 100000);
     }
 
