@@ -801,13 +801,14 @@ public final class LastRest {
             token = known ? letter : STRANGE;
         }
 
+        /** Figures side by side are never parted: too many of them are no token at all. */
         private void takeFigures() {
-            token = NUMBER;
             number = 0;
-            for (int i = 0; i < MOST_FIGURES && next < length && isFigure(tape[next]); i++) {
+            while (next < length && isFigure(tape[next])) {
                 number = 10 * number + tape[next] - '0';
                 next++;
             }
+            token = next - tokenAt <= MOST_FIGURES ? NUMBER : STRANGE;
         }
 
         private static boolean isFigure(int letter) {

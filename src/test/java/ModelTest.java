@@ -82,10 +82,11 @@ public final class ModelTest {
         for (int n = random.nextInt(3); n >= 0; n--) {
             int at = random.nextInt(t.length());
             char letter = letters.charAt(random.nextInt(letters.length()));
-            switch (random.nextInt(4)) {
+            switch (random.nextInt(5)) {
                 case 0: t.setCharAt(at, letter); break;
                 case 1: t.insert(at, letter); break;
                 case 2: t.deleteCharAt(at); break;
+                case 3: t.insert(at, "0002".substring(random.nextInt(4))); break;
                 default: t.setLength(at + 1); break;
             }
         }

@@ -290,10 +290,24 @@ public final class PromisesTest {
         dueFault("w1;r0,30;", 8, 1);
         dueFault("w1;r0,0,1", 9, 1);
         dueFault("w1;r0,0,1,", 9, 1);
-        // A number takes three figures at most: the fourth begins another one, that cannot stand there.
-        dueFault("w1;r0,0,1000;", 11, 1);
-        dueFault("w0012;", 4, 1);
-        dueFault("w1234;", 1, 2);
+        // More than three figures side by side are no token: the fault is at the first of them.
+        dueFault("w1;r0,0,1000;", 8, 1);
+        dueFault("w3;r0,5,3009", 8, 1);
+        dueFault("w1;r0,0,0001;", 8, 1);
+        dueFault("w1;r0,0,100", 11, 1);
+        dueFault("w0012;", 1, 1);
+        dueFault("w1340", 1, 1);
+        dueFault("w134", 1, 2);
+        dueFault("w1,0002;", 3, 1);
+        dueFault("w1,2,3,4,5,6,7,8,0009;", 17, 1);
+        dueFault("w1;r0000,0,1;", 4, 1);
+        dueFault("w1;r0,0000,1;", 6, 1);
+        dueFault("1234", 0, 1);
+        dueFault("w" + "0".repeat(118) + "1", 1, 1);
+        dueFault(r + "1234", 10, 1);
+        dueFault(r + "s0001,0;", 11, 1);
+        dueFault(r + "s1,0000;", 13, 1);
+        dueFault(r + "s1,4294967296;", 13, 1);
         dueFault(r + "x", 10, 1);
         dueFault(r + "w", 10, 1);
         dueFault(r + ";", 10, 1);

@@ -500,7 +500,7 @@ final class Model {
 
     /** A text is cut into tokens first; then a list of what may stand where goes along them. */
     static final class Text {
-        private static final Pattern TOKEN = Pattern.compile("[a-z]|[0-9]{1,3}|[,;]");
+        private static final Pattern TOKEN = Pattern.compile("[a-z]|[0-9]{1,3}(?![0-9])|[,;]");
         final List<String> tokens = new ArrayList<>();
         final List<Integer> places = new ArrayList<>();
         final Way way = new Way();
