@@ -151,7 +151,7 @@ public final class ForetoldEdgesTest extends Edges {
         // Tired 8 at 24: a rest of 2 takes a minute off each of 9 miles, by rules 1 and 2, and with m 2 to 9 alike.
         told("w8,9;r3,0,1;s3,0;");
         dueAll("rule 1 ahead of 2, m 2", soonest(), 1, 2, 24 + 2 + 27);
-        // 0 comes at 63, 1 at 81, who is slow first and quick then: only by rules 2 and 3 nobody waits.
+        // 1 comes at 81 and is the slower one then, 0 comes at 90: by rules 2 and 3 alone 1 need not wait.
         told("w9,9;r0,0,1;o7,0;s7,9;");
         dueAll("rule 2 ahead of 3", soonest(), 2, 0, 207);
     }

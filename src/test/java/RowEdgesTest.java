@@ -196,7 +196,7 @@ public final class RowEdgesTest extends Edges {
         x.set(2, 0, 65536 + 9);
         due("the int of 65545 is not 9", holds(2, 0, 9) ? 1 : 0, 0);
         x.set(2, 0, 9);
-        due("nor is 9 that of 265", holds(2, 0, 9) ? 1 : 0, 1);
+        due("the int of 9 is", holds(2, 0, 9) ? 1 : 0, 1);
     }
 
     /** "PLACE (no such place of a ROW)". */
